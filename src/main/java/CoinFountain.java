@@ -279,7 +279,7 @@ public final class CoinFountain {
     public int sorry() {
         int set = 0;
         for (int place = 0; place < here.people; place++) {
-            if (missedGain(place) > 0) {
+            if (gainThrowing(place, bestThrow(place)) > gainAsIs(place)) {
                 set |= 1 << place;
             }
         }
@@ -290,7 +290,8 @@ public final class CoinFountain {
         if (!here.stands(place)) {
             return finding(BEYOND);
         }
-        return missedGain(place);
+        // Below 0 for a CHILD whose fishing is better than all that it could throw.
+        return gainThrowing(place, bestThrow(place)) - gainAsIs(place);
     }
 
     public int stand(int place) {
@@ -674,11 +675,6 @@ public final class CoinFountain {
         return bestC;
     }
 
-    /** Below 0 for a CHILD whose fishing is better than all that it could throw. */
-    private int missedGain(int place) {
-        return gainThrowing(place, bestThrow(place)) - gainAsIs(place);
-    }
-
     private boolean isAtRest(int bits) {
         int minutes = here.coins + Integer.bitCount(bits);
         for (int place = 0; place < here.people; place++) {
@@ -814,7 +810,11 @@ public final class CoinFountain {
         }
 
         int thinks(int place) {
-            return speaks ? Math.max(0, coins + lie) : row[place].guess;
+            if (!speaks) {
+                return row[place].guess;
+            }
+            int told = coins + lie;
+            return told > 0 ? told : 0;
         }
 
         /** What would be SHORT at a PLACE by what the one who stands at another THINKS. */
@@ -823,20 +823,30 @@ public final class CoinFountain {
         }
 
         int wouldThrow(int place) {
-            return Math.min(wish(place), row[place].purse);
-        }
-
-        private int wish(int place) {
+            Person one = row[place];
             int lacks = shortAt(place, place);
-            switch (row[place].kind) {
-                case PERSON: return lacks == 1 && row[place].value >= 1 ? 1 : 0;
-                case HOPER: return 0;
-                case WISHER: return 1;
-                case GENTLEMAN: return lacks <= row[place].value ? lacks : 0;
-                case CHILD: return coins > 0 ? -1 : 0;
-                case PATRON: return shortAt(people - 1, place);
-                default: return 0;
+            int amount = 0;
+            switch (one.kind) {
+                case PERSON:
+                    amount = lacks == 1 && one.value >= 1 ? 1 : 0;
+                    break;
+                case WISHER:
+                    amount = 1;
+                    break;
+                case GENTLEMAN:
+                    amount = lacks <= one.value ? lacks : 0;
+                    break;
+                case CHILD:
+                    amount = coins > 0 ? -1 : 0;
+                    break;
+                case PATRON:
+                    amount = shortAt(people - 1, place);
+                    break;
+                default:
+                    // A HOPER throws nothing.
+                    break;
             }
+            return Math.min(amount, one.purse);
         }
 
         /** An HOUR, in which one of them throws c instead of what that one WOULD: PAILS that are filled. */
@@ -1143,30 +1153,26 @@ public final class CoinFountain {
             behind = first;
             if (first >= size) {
                 token = END;
-            } else if (isLetter(bytes[first])) {
-                lookWord();
-            } else if (isDigit(bytes[first])) {
-                lookNumber();
-            } else {
-                token = signOf(bytes[first]);
-                behind++;
+                return;
             }
-        }
-
-        private void lookWord() {
-            token = WORD;
-            while (behind < size && isLetter(bytes[behind])) {
-                behind++;
+            if (isLetter(bytes[first])) {
+                token = WORD;
+                while (behind < size && isLetter(bytes[behind])) {
+                    behind++;
+                }
+                return;
             }
-        }
-
-        private void lookNumber() {
-            token = NUMBER;
-            number = 0;
-            while (behind < size && isDigit(bytes[behind])) {
-                number = Math.min(TOO_MUCH, 10 * number + bytes[behind] - '0');
-                behind++;
+            if (isDigit(bytes[first])) {
+                token = NUMBER;
+                number = 0;
+                while (behind < size && isDigit(bytes[behind])) {
+                    number = Math.min(TOO_MUCH, 10 * number + bytes[behind] - '0');
+                    behind++;
+                }
+                return;
             }
+            token = signOf(bytes[first]);
+            behind++;
         }
 
         private static int signOf(byte b) {

@@ -147,6 +147,12 @@ public final class ThrowTest {
         y.coins(0);
         Due.is("lie(): he throws nothing by 3", y.lie(), 3);
         Due.is("lie() of nobody", new CoinFountain().lie(), -20);
+        CoinFountain v = Due.told("patron;coins 20");
+        Due.is("lie(): one of 20 coins is left to see", v.lie(), -19);
+        v.coins(19);
+        Due.is("lie(): one of 19 coins is left to see", v.lie(), -18);
+        v.coins(21);
+        Due.is("lie(): one of 21 coins is left to see", v.lie(), -20);
         CoinFountain z = Due.told("gentleman value 0;coins 999;law 1");
         Due.is("lie(): the least of those that are all as good", z.lie(), -20);
     }
@@ -202,6 +208,15 @@ public final class ThrowTest {
         CoinFountain y = Due.told("diver;gentleman;child;coins 1");
         // LAW 0: 0 thrown, child fishes: 0 pails: 0. LAW 1: child fishes, he throws 1: 1 pail: 100.
         Due.is("fair(): 0 by nothing thrown", y.fair(), 1);
+        // LAW 0: the child fishes 1, he thinks 1 and throws 1: 2 pails for 1. LAW 1: he thinks 2: 2 pails for nothing, by 1.
+        CoinFountain z = Due.told("child;gentleman;coins 3;diver lie -1");
+        Due.is("fair(): by 1, if nothing is thrown", z.fair(), 0);
+        // 7 pails for 28 coins by LAW 0, for 27 by LAW 1: 25 both, as quotients are cut.
+        CoinFountain w = Due.told("diver lie -20;patron purse 28;patron;patron;patron;person;patron purse 14;wisher");
+        Due.is("fair(): quotients are cut", w.fair(), 0);
+        Due.is("runs() by LAW 0", w.runs(), 28);
+        w.law(1);
+        Due.is("runs() by LAW 1", w.runs(), 27);
     }
 
     private static void rests() {
