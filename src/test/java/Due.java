@@ -11,17 +11,26 @@ final class Due {
     static final int MISSING = -1000000006;
     static final int SIZE = -1000000007;
 
+    /** Numbers far from all that may be, some of which wrap around if one is added or they are doubled. */
+    private static final int[] FAR = {Integer.MIN_VALUE, Integer.MIN_VALUE + 1, -65536, -256, -2, 256, 65536, 1 << 30, Integer.MAX_VALUE};
+
     private static int wrong = 0;
     private static int asked = 0;
+    private static String sentence = "";
 
     private Due() {
+    }
+
+    /** The sentence of the document that the tests behind it look at. */
+    static void says(String words) {
+        sentence = "[" + words + "] ";
     }
 
     static void is(String call, long got, long want) {
         asked++;
         if (got != want) {
             wrong++;
-            System.out.println(call + " answered " + got + ", due is " + want);
+            System.out.println(sentence + call + " answered " + got + ", due is " + want);
         }
     }
 
@@ -45,6 +54,59 @@ final class Due {
         long answer();
     }
 
+    /** An act that may be asked of any number. */
+    interface ActOn {
+        long answer(int v);
+    }
+
+    /** All numbers below the least and above the most must be answered by a finding, those at the edge and those far away. */
+    static void findsOutside(String call, CoinFountain x, int least, int most, long finding, ActOn act) {
+        finds(call + " of " + (least - 1), x, finding, () -> act.answer(least - 1));
+        finds(call + " of " + (most + 1), x, finding, () -> act.answer(most + 1));
+        for (int v : FAR) {
+            if (v < least || v > most) {
+                finds(call + " of " + v, x, finding, () -> act.answer(v));
+            }
+        }
+    }
+
+    /** Only those below the least. */
+    static void findsBelow(String call, CoinFountain x, int least, long finding, ActOn act) {
+        finds(call + " of " + (least - 1), x, finding, () -> act.answer(least - 1));
+        for (int v : FAR) {
+            if (v < least) {
+                finds(call + " of " + v, x, finding, () -> act.answer(v));
+            }
+        }
+    }
+
+    /** Only those above the most. */
+    static void findsAbove(String call, CoinFountain x, int most, long finding, ActOn act) {
+        finds(call + " of " + (most + 1), x, finding, () -> act.answer(most + 1));
+        for (int v : FAR) {
+            if (v > most) {
+                finds(call + " of " + v, x, finding, () -> act.answer(v));
+            }
+        }
+    }
+
+    /** Hours go until it is that HOUR. */
+    static void late(CoinFountain x, int hour) {
+        while (x.now(0) < hour) {
+            x.hours(Math.min(200, hour - x.now(0)));
+        }
+        is("HOUR", x.now(0), hour);
+    }
+
+    /** People of one KIND. */
+    static CoinFountain crowd(int kind, int n) {
+        CoinFountain x = new CoinFountain();
+        for (int i = 0; i < n; i++) {
+            x.person(kind);
+        }
+        return x;
+    }
+
     static int feed(CoinFountain x, String text) {
         int has = x.count(1);
         for (int i = 0; i < text.length(); i++) {
@@ -58,10 +120,13 @@ final class Due {
         return x.square();
     }
 
-    static CoinFountain told(String text) {
+    /** A square told in one text or several, as one has at most 120 bytes. */
+    static CoinFountain told(String... texts) {
         CoinFountain x = new CoinFountain();
-        int items = square(x, text);
-        holds("square of " + text, items > 0);
+        for (String text : texts) {
+            int items = square(x, text);
+            holds("square of " + text, items > 0);
+        }
         return x;
     }
 
