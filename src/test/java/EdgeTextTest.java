@@ -5,6 +5,7 @@ public final class EdgeTextTest {
         feedBeyond();
         feedFull();
         wipeEdges();
+        nothingIsLeft();
         everyByteBehindWord();
         everyByteAsNumber();
         everyByteBetweenItems();
@@ -103,6 +104,27 @@ public final class EdgeTextTest {
         Due.is("none again", x.wipe(), 0);
         Due.feed(x, "law 2");
         Due.is("nothing is left of what it had", x.square(), 1);
+    }
+
+    private static void nothingIsLeft() {
+        Due.says("32, 33: THE TAPE is empty: nothing of what it had is read again");
+        String[] before = {"law 11111", "law 1    ", "law 1;;;;", "law 1aaaa", "law 1----", "law 1????"};
+        for (String text : before) {
+            CoinFountain x = new CoinFountain();
+            Due.feed(x, text);
+            x.wipe();
+            Due.is("behind wipe() of " + text, Due.square(x, "law 1"), 1);
+            Due.square(x, text);
+            Due.is("behind square() of " + text, Due.square(x, "law 1"), 1);
+            Due.square(x, text);
+            Due.is("a word behind " + text, Due.square(x, "law 1;silent"), 2);
+            Due.square(x, text);
+            Due.is("too early behind " + text, Due.square(x, "law "), -5);
+        }
+        CoinFountain y = new CoinFountain();
+        Due.is("bytes", Due.feed(y, "coins " + "0".repeat(111) + "555"), 120);
+        Due.is("120 bytes to the last digit", y.square(), 1);
+        Due.is("COINS", y.now(1), 555);
     }
 
     private static boolean isLetter(int b) {

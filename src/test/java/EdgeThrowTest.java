@@ -219,6 +219,10 @@ public final class EdgeThrowTest {
             Due.is("all as good with coins, from " + from, x.stand(from), 0);
         }
         Due.is("alone", Due.crowd(3, 1).stand(0), 0);
+        CoinFountain y = Due.told("person;hoper;hoper;hoper;coins 4");
+        Due.is("1, 2 and 3 alike, at 0 he would throw", y.stand(0), 1);
+        y.move(0, 3);
+        Due.is("1, 2 and 3 alike, from 3", y.stand(3), 1);
     }
 
     private static void standBeyond() {
