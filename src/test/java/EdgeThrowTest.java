@@ -19,6 +19,7 @@ public final class EdgeThrowTest {
         kindLeast();
         kindBeyond();
         lieMost();
+        lieNotBelow();
         lieLeast();
         wordEdges();
         fairForEachCoin();
@@ -285,6 +286,15 @@ public final class EdgeThrowTest {
             x.coins(0);
             Due.is("whatever the diver says now", x.lie(), n);
         }
+    }
+
+    /** By -20 he thinks that 1 lies there and throws in vain; by -21, which is none, he would think 0 and throw nothing. */
+    private static void lieNotBelow() {
+        Due.says("26: The LIE (-20 to 20)");
+        CoinFountain x = Due.told("hoper;person;coins 21");
+        Due.is("-19, by which nothing is short", x.lie(), -19);
+        x.coins(20);
+        Due.is("-20, by which too much is short", x.lie(), -20);
     }
 
     private static void lieLeast() {
